@@ -821,7 +821,9 @@ public final class QueueBlame {
                 } else {
                     outcome.noteDrop(packet);
                 }
-                serveBehind(packet);
+                if (isLastOfItsTick(packet)) {
+                    serveBehind(packet);
+                }
             }
         }
 
@@ -956,34 +958,36 @@ public final class QueueBlame {
             return true;
         }
 
-        /** Serves the queue from the tick of a packet to the tick of the next one. */
-        private void serveBehind(int packet) {
-            int tick = recording.times[packet];
-            int bytes = line.load;
-            if (packet + 1 < recording.count) {
-                int ticks = recording.times[packet + 1] - tick;
-                if (ticks == 0) {
-                    return;
-                }
-                bytes = Math.min(bytes, rate * ticks);
-            }
-            outcome.noteLoad(tick, Math.max(0, line.load - rate));
-            sendFrom(tick, bytes);
+        private boolean isLastOfItsTick(int packet) {
+            return packet + 1 >= recording.count || recording.times[packet + 1] > recording.times[packet];
         }
 
-        /** As long as the queue is not empty, no byte of the rate is lost, so ticks need no steps. */
-        private void sendFrom(int tick, int bytes) {
+        private int bytesUntilNext(int packet) {
+            if (packet + 1 >= recording.count) {
+                return line.load;
+            }
+            return Math.min(line.load, rate * (recording.times[packet + 1] - recording.times[packet]));
+        }
+
+        /**
+         * Serves the queue from the tick of a packet until the next packet arrives. As long as the queue
+         * is not empty, no byte of the rate is lost, so the ticks need no steps of their own.
+         */
+        private void serveBehind(int packet) {
+            int tick = recording.times[packet];
+            int bytes = bytesUntilNext(packet);
+            outcome.noteLoad(tick, Math.max(0, line.load - rate));
             int sent = 0;
             for (int turn = 0; turn < MOST_PACKETS && sent < bytes; turn++) {
                 int position = chosenPosition();
                 if (position == NONE) {
                     return;
                 }
-                int packet = line.waiting[position];
-                int part = Math.min(line.remaining[packet], bytes - sent);
+                int chosen = line.waiting[position];
+                int part = Math.min(line.remaining[chosen], bytes - sent);
                 sent += part;
                 if (line.send(position, part)) {
-                    outcome.fates[packet] = tick + quotient(sent - 1, rate);
+                    outcome.fates[chosen] = tick + quotient(sent - 1, rate);
                 }
             }
         }

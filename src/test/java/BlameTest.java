@@ -45,6 +45,7 @@ public final class BlameTest {
         fraction("blame of 1", x.blame(1, 0), x.blame(1, 1), 9, 2);
         fraction("blame of 0 for 0", x.blameFor(0, 0, 0), x.blameFor(0, 0, 1), 0, 1);
         fraction("index of 0", x.index(0, 0), x.index(0, 1), -9, 2);
+        fraction("index of 1", x.index(1, 0), x.index(1, 1), 9, 2);
         fraction("interaction", x.interaction(0, 1, 0), x.interaction(0, 1, 1), -9, 1);
         ranking(x, 1, 2, 3, 4, 5, 0);
         // By the document's arithmetic, done apart from this program, the first orders from the state 0 are
@@ -78,6 +79,29 @@ public final class BlameTest {
         fraction("interaction 1 2", x.interaction(1, 2, 0), x.interaction(1, 2, 1), 1, 4);
         x.setPriority(0, 0);
         ranking(x, 0, 1, 2, 3, 4, 5);
+    }
+
+    /** Each answer holds for the state at the call, whatever was asked before. */
+    private static void afterChanges() {
+        QueueBlame x = with(0, 0, 60, 0, 1, 60);
+        Check.due("interaction", x.interaction(0, 1, 0), 1);
+        x.setMeasure(1);
+        Check.due("interaction in bytes", x.interaction(0, 1, 0), 60);
+        x.setCapacity(120);
+        Check.due("no interaction", x.interaction(0, 1, 0), 0);
+        x.record(0, 3, 1);
+        Check.due("ranked", x.ranked(0), 0);
+        x.erase(0);
+        Check.due("ranked without flow 0", x.ranked(0), 0);
+        x.setCapacity(60);
+        Check.due("ranked by flows 1 and 3", x.ranked(0), 1);
+        Check.due("sampled", x.sampled(3, 100, 0) + x.sampled(1, 100, 0), 100);
+        x.setCapacity(61);
+        Check.due("sampled without drops", x.sampled(3, 100, 0), 0);
+        x.undo();
+        Check.due("blame after undo", x.blame(3, 1), 2);
+        Check.due("blame for another victim", x.blameFor(3, 1, 0), 0);
+        Check.due("index behind it", x.index(3, 1), 2);
     }
 
     private static void wrongArguments() {
@@ -203,6 +227,7 @@ public final class BlameTest {
         pair();
         negative();
         three();
+        afterChanges();
         wrongArguments();
         causes();
         capacities();

@@ -63,6 +63,17 @@ public final class ReplayTest {
         Check.due("slow loadAt(500)", slow.loadAt(500), 99);
         Check.due("slow loadAt(598)", slow.loadAt(598), 1);
         Check.due("slow loadAt(599)", slow.loadAt(599), 0);
+        QueueBlame partly = with(0, 0, 5, 0, 1, 20, 1, 2, 10);
+        drops("partly sent", partly);
+        fates("partly sent", partly, 0, 2, 3);
+        Check.due("partly sent: loadAt(0)", partly.loadAt(0), 15);
+        Check.due("partly sent: loadAt(1)", partly.loadAt(1), 15);
+        QueueBlame spread = new QueueBlame();
+        for (int k = 0; k < 40; k++) spread.record(10 * k, k % 6, 20 + k);
+        drops("spread", spread);
+        Check.due("spread: the last load", spread.loadAt(390), 49);
+        Check.due("spread: the peak", spread.peak(), 49);
+        Check.due("spread: the last fate", spread.fate(39), 395);
         QueueBlame empty = with(0, 0, 10);
         drops("empty at once", empty);
         Check.due("empty at once: peak", empty.peak(), 0);
@@ -126,6 +137,10 @@ public final class ReplayTest {
         much.setPolicy(3);
         much.setFactor(16);
         drops("dynamic threshold, factor 16", much, 1);
+        QueueBlame full = with(0, 0, 80, 0, 1, 30, 0, 2, 20);
+        full.setPolicy(3);
+        full.setFactor(16);
+        drops("dynamic threshold, full", full, 1);
         // In tick 1 the bytes that remain of flow 0 are 40, the load is 40: 4 * 60 = 4 * 60.
         QueueBlame remaining = with(0, 0, 50, 1, 0, 20, 1, 0, 1);
         remaining.setPolicy(3);
@@ -158,6 +173,16 @@ public final class ReplayTest {
         begun.setPriority(1, 0);
         drops("priorities, begun", begun);
         fates("priorities, begun", begun, 1, 2, 3);
+        QueueBlame all = with(0, 0, 10, 0, 1, 10, 0, 2, 10, 0, 3, 10, 0, 4, 10, 0, 5, 10);
+        all.setScheduler(1);
+        int[] priorities = {4, 9, 0, 4, 8, 3};
+        for (int flow = 0; flow < 6; flow++) all.setPriority(flow, priorities[flow]);
+        drops("six priorities", all);
+        fates("six priorities", all, 2, 5, 0, 3, 4, 1);
+        QueueBlame first = with(0, 5, 10, 0, 4, 10, 0, 0, 10);
+        first.setScheduler(2);
+        drops("round robin begins with flow 0", first);
+        fates("round robin begins with flow 0", first, 2, 1, 0);
         QueueBlame round = with(0, 0, 10, 0, 0, 10, 0, 3, 10, 0, 1, 10, 0, 3, 10);
         round.setScheduler(2);
         drops("round robin", round);

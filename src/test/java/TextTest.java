@@ -49,6 +49,9 @@ public final class TextTest {
         fault("rat 1;", 0);
         fault("ratee 1;", 0);
         fault("rater 1;", 0);
+        fault("ratez 1;", 0);
+        fault("date 1;", 0);
+        fault("rata 1;", 0);
         fault("rate 1; pol", 8);
         fault("threshold 1;", 0);
         fault("rate 12345;", 5);
@@ -71,6 +74,29 @@ public final class TextTest {
         fault("rate 1  ", 8);
         fault("packet 1 2", 10);
         fault("rate 1;policy 1", 15);
+    }
+
+    /** What an earlier, longer text left behind must not be read. */
+    private static void afterLongerTexts() {
+        QueueBlame x = new QueueBlame();
+        Check.write(x, "rate 5678;rate 2;rate 3;policy 1;policy 2;");
+        Check.due("run of the longer text", x.run(), 4);
+        x.clearText();
+        Check.due("run of the empty text", x.run(), 0);
+        Check.write(x, "rate 5");
+        Check.due("fault", x.fault(), 6);
+        x.type(';');
+        Check.due("run of the shorter text", x.run(), 1);
+        Check.due("rate", x.setRate(1), 5);
+        Check.due("policy", x.setPolicy(1), 2);
+        x.clearText();
+        for (int k = 0; k < 19; k++) Check.write(x, "rate9;");
+        Check.write(x, "rate10");
+        Check.due("fault of a full text", x.fault(), 120);
+        x.clearText();
+        for (int k = 0; k < 20; k++) Check.write(x, "rate7;");
+        Check.due("run of a full text", x.run(), 20);
+        Check.throwsState("the text is full", () -> x.type(32));
     }
 
     private static void running() {
@@ -132,6 +158,7 @@ public final class TextTest {
     public static void main(String[] args) {
         typing();
         scripts();
+        afterLongerTexts();
         running();
         skipped();
         Check.end();
