@@ -850,7 +850,7 @@ public final class QueueBlame {
         }
 
         /**
-         * Every question about the capacity is asked here: up to nextCapacity all answers,
+         * Every question about the capacity is asked here: below nextCapacity all answers,
          * and so the whole replay, stay the same.
          */
         private boolean holds(int bytes) {

@@ -194,6 +194,12 @@ public final class BlameTest {
         for (int k = 0; k < 11; k++) much.record(0, k % 6, 100);
         Check.due("more than 1000 bytes", much.capacityFor(0), -1);
         Check.due("just 1000 bytes", much.capacityFor(1), 1000);
+        much.erase(10);
+        much.record(0, 5, 1);
+        Check.due("1001 bytes", much.capacityFor(0), -1);
+        QueueBlame tiny = with(0, 0, 1, 0, 1, 1, 0, 2, 1);
+        Check.due("the next capacity", tiny.capacityFor(1), 2);
+        Check.due("the one behind it", tiny.capacityFor(0), 3);
         // 4 * 30 <= 3 * capacity for the first packet, 4 * 10 <= 3 * (capacity - 30) for the second.
         QueueBlame threshold = with(0, 0, 30, 0, 1, 10);
         threshold.setPolicy(3);

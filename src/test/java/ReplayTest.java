@@ -68,6 +68,16 @@ public final class ReplayTest {
         fates("partly sent", partly, 0, 2, 3);
         Check.due("partly sent: loadAt(0)", partly.loadAt(0), 15);
         Check.due("partly sent: loadAt(1)", partly.loadAt(1), 15);
+        QueueBlame later = with(5, 0, 50, 7, 1, 50);
+        drops("later", later);
+        fates("later", later, 9, 14);
+        Check.due("later: loadAt(4)", later.loadAt(4), 0);
+        Check.due("later: loadAt(6)", later.loadAt(6), 30);
+        Check.due("later: loadAt(7)", later.loadAt(7), 70);
+        QueueBlame within = with(0, 0, 100, 0, 1, 10);
+        within.setPolicy(1);
+        drops("a load within a tick", within, 0);
+        Check.due("a load within a tick is no peak", within.peak(), 0);
         QueueBlame spread = new QueueBlame();
         for (int k = 0; k < 40; k++) spread.record(10 * k, k % 6, 20 + k);
         drops("spread", spread);
