@@ -1,11 +1,5 @@
 /** Promises 22 to 32: contributions, Shapley values, Banzhaf indices, samples, causes, capacities, policies. */
 public final class BlameTest {
-    private static QueueBlame with(int... packets) {
-        QueueBlame x = new QueueBlame();
-        for (int k = 0; k + 2 < packets.length; k += 3) x.record(packets[k], packets[k + 1], packets[k + 2]);
-        return x;
-    }
-
     private static void fraction(String name, int numerator, int denominator, int n, int d) {
         Check.due(name + ", numerator", numerator, n);
         Check.due(name + ", denominator", denominator, d);
@@ -17,7 +11,7 @@ public final class BlameTest {
 
     /** Flows 0 and 1 together lose a packet of flow 1. */
     private static void pair() {
-        QueueBlame x = with(0, 0, 60, 0, 1, 60);
+        QueueBlame x = Check.with(0, 0, 60, 0, 1, 60);
         Check.due("contribution to none", x.contribution(0, 0), 0);
         Check.due("contribution to flow 1", x.contribution(0, 2), 1);
         Check.due("contribution to all others", x.contribution(1, 61), 1);
@@ -37,7 +31,7 @@ public final class BlameTest {
 
     /** Flow 0 keeps the slow packet of flow 1 out, so its contribution to the delays is negative. */
     private static void negative() {
-        QueueBlame x = with(0, 0, 10, 0, 1, 100);
+        QueueBlame x = Check.with(0, 0, 10, 0, 1, 100);
         x.setMeasure(2);
         Check.due("contribution", x.contribution(0, 2), -9);
         Check.due("contribution of the other", x.contribution(1, 0), 9);
@@ -60,7 +54,7 @@ public final class BlameTest {
 
     /** Three flows, any two of which fit: Shapley and Banzhaf differ. */
     private static void three() {
-        QueueBlame x = with(0, 0, 60, 0, 1, 30, 0, 2, 30, 0, 3, 30);
+        QueueBlame x = Check.with(0, 0, 60, 0, 1, 30, 0, 2, 30, 0, 3, 30);
         // v is 1 if flow 0 is there with two others, 2 with all three, otherwise 0.
         Check.due("worth", x.worth(15), 2);
         Check.due("worth", x.worth(7), 1);
@@ -83,7 +77,7 @@ public final class BlameTest {
 
     /** Each answer holds for the state at the call, whatever was asked before. */
     private static void afterChanges() {
-        QueueBlame x = with(0, 0, 60, 0, 1, 60);
+        QueueBlame x = Check.with(0, 0, 60, 0, 1, 60);
         Check.due("interaction", x.interaction(0, 1, 0), 1);
         x.setMeasure(1);
         Check.due("interaction in bytes", x.interaction(0, 1, 0), 60);
@@ -105,7 +99,7 @@ public final class BlameTest {
     }
 
     private static void wrongArguments() {
-        QueueBlame x = with(0, 0, 60, 0, 1, 60);
+        QueueBlame x = Check.with(0, 0, 60, 0, 1, 60);
         Check.throwsIndex("contribution of 6", () -> x.contribution(6, 64));
         Check.throwsIndex("contribution of -1", () -> x.contribution(-1, 0));
         Check.throwsArgument("contribution to 64", () -> x.contribution(0, 64));
@@ -155,36 +149,36 @@ public final class BlameTest {
     }
 
     private static void causes() {
-        causes("not dropped", with(0, 0, 60, 0, 1, 60), 0, 0, 0);
-        causes("one", with(0, 0, 60, 0, 1, 60), 1, 1, 1);
-        causes("one of two", with(0, 0, 40, 0, 1, 40, 0, 2, 40), 2, 1, 3);
-        causes("both", with(0, 0, 50, 0, 1, 50, 0, 2, 60), 2, 3, 3);
-        causes("all three", with(0, 4, 30, 0, 3, 30, 0, 1, 30, 0, 0, 71), 3, 26, 26);
-        causes("two of three", with(0, 4, 30, 0, 3, 30, 0, 1, 30, 0, 0, 60), 3, 10, 26);
+        causes("not dropped", Check.with(0, 0, 60, 0, 1, 60), 0, 0, 0);
+        causes("one", Check.with(0, 0, 60, 0, 1, 60), 1, 1, 1);
+        causes("one of two", Check.with(0, 0, 40, 0, 1, 40, 0, 2, 40), 2, 1, 3);
+        causes("both", Check.with(0, 0, 50, 0, 1, 50, 0, 2, 60), 2, 3, 3);
+        causes("all three", Check.with(0, 4, 30, 0, 3, 30, 0, 1, 30, 0, 0, 71), 3, 26, 26);
+        causes("two of three", Check.with(0, 4, 30, 0, 3, 30, 0, 1, 30, 0, 0, 60), 3, 10, 26);
         // Flow 5 alone has a higher mask than flows 0 and 1 together, but fewer flows.
-        causes("fewest flows", with(0, 0, 20, 0, 1, 20, 0, 5, 40, 0, 2, 50), 3, 32, 32);
-        causes("all five", with(0, 1, 20, 0, 2, 20, 0, 3, 20, 0, 4, 20, 0, 5, 20, 0, 0, 100), 5, 62, 62);
-        causes("its own flow", with(0, 0, 60, 0, 0, 60), 1, -1, 0);
-        QueueBlame small = with(0, 0, 60, 0, 1, 10);
+        causes("fewest flows", Check.with(0, 0, 20, 0, 1, 20, 0, 5, 40, 0, 2, 50), 3, 32, 32);
+        causes("all five", Check.with(0, 1, 20, 0, 2, 20, 0, 3, 20, 0, 4, 20, 0, 5, 20, 0, 0, 100), 5, 62, 62);
+        causes("its own flow", Check.with(0, 0, 60, 0, 0, 60), 1, -1, 0);
+        QueueBlame small = Check.with(0, 0, 60, 0, 1, 10);
         small.setCapacity(50);
         causes("too large", small, 0, -1, 0);
-        QueueBlame head = with(0, 0, 60, 0, 1, 60);
+        QueueBlame head = Check.with(0, 0, 60, 0, 1, 60);
         head.setPolicy(1);
         causes("dropped by a later one", head, 0, 2, 2);
     }
 
     private static void capacities() {
         Check.due("capacity for nothing", new QueueBlame().capacityFor(0), 1);
-        QueueBlame x = with(0, 0, 60, 0, 1, 60);
+        QueueBlame x = Check.with(0, 0, 60, 0, 1, 60);
         Check.due("capacity for 0 drops", x.capacityFor(0), 120);
         Check.due("capacity for 1 drop", x.capacityFor(1), 60);
         Check.due("capacity for 2 drops", x.capacityFor(2), 1);
         Check.due("capacity for any drops", x.capacityFor(Integer.MAX_VALUE), 1);
         Check.due("the capacity stays", x.setCapacity(1), 100);
         // With 50 to 69 the first packet takes the room of both others.
-        QueueBlame gap = with(0, 0, 50, 0, 1, 20, 0, 2, 20);
+        QueueBlame gap = Check.with(0, 0, 50, 0, 1, 20, 0, 2, 20);
         Check.due("capacity below the gap", gap.capacityFor(1), 40);
-        QueueBlame early = with(0, 0, 1, 0, 0, 1);
+        QueueBlame early = Check.with(0, 0, 1, 0, 0, 1);
         early.setPolicy(4);
         early.setThreshold(0);
         early.setInterval(2);
@@ -197,11 +191,11 @@ public final class BlameTest {
         much.erase(10);
         much.record(0, 5, 1);
         Check.due("1001 bytes", much.capacityFor(0), -1);
-        QueueBlame tiny = with(0, 0, 1, 0, 1, 1, 0, 2, 1);
+        QueueBlame tiny = Check.with(0, 0, 1, 0, 1, 1, 0, 2, 1);
         Check.due("the next capacity", tiny.capacityFor(1), 2);
         Check.due("the one behind it", tiny.capacityFor(0), 3);
         // 4 * 30 <= 3 * capacity for the first packet, 4 * 10 <= 3 * (capacity - 30) for the second.
-        QueueBlame threshold = with(0, 0, 30, 0, 1, 10);
+        QueueBlame threshold = Check.with(0, 0, 30, 0, 1, 10);
         threshold.setPolicy(3);
         threshold.setFactor(3);
         Check.due("dynamic threshold", threshold.capacityFor(0), 44);
@@ -210,13 +204,13 @@ public final class BlameTest {
 
     private static void policies() {
         Check.due("best policy without packets", new QueueBlame().bestPolicy(), 0);
-        QueueBlame x = with(0, 0, 100, 0, 1, 50, 0, 2, 50);
+        QueueBlame x = Check.with(0, 0, 100, 0, 1, 50, 0, 2, 50);
         Check.due("fewest drops", x.bestPolicy(), 1);
         x.setPolicy(4);
         Check.due("fewest drops again", x.bestPolicy(), 1);
         x.setMeasure(1);
         Check.due("fewest bytes", x.bestPolicy(), 0);
-        QueueBlame delays = with(0, 0, 50, 0, 1, 50);
+        QueueBlame delays = Check.with(0, 0, 50, 0, 1, 50);
         delays.setMeasure(2);
         Check.due("equal delays", delays.bestPolicy(), 0);
         delays.setThreshold(0);
@@ -225,7 +219,7 @@ public final class BlameTest {
         delays.setFactor(1);
         Check.due("dynamic threshold delays least", delays.bestPolicy(), 3);
         Check.due("the policy stays", delays.setPolicy(1), 0);
-        QueueBlame longest = with(0, 0, 20, 0, 1, 40, 0, 1, 40, 0, 2, 30);
+        QueueBlame longest = Check.with(0, 0, 20, 0, 1, 40, 0, 1, 40, 0, 2, 30);
         Check.due("longest flow is not better than tail drop", longest.bestPolicy(), 0);
     }
 

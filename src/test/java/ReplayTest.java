@@ -1,12 +1,5 @@
 /** Promises 15 to 21: replay, fate, loadAt, peak, dropped, worth, worthFor, with every policy and scheduler. */
 public final class ReplayTest {
-    /** An analyser with packets that are given as time, flow, size, time, flow, size .. */
-    private static QueueBlame with(int... packets) {
-        QueueBlame x = new QueueBlame();
-        for (int k = 0; k + 2 < packets.length; k += 3) x.record(packets[k], packets[k + 1], packets[k + 2]);
-        return x;
-    }
-
     private static void fates(String name, QueueBlame x, int... fates) {
         for (int k = 0; k < fates.length; k++) Check.due(name + ": fate " + k, x.fate(k), fates[k]);
         Check.due(name + ": fate behind the last", x.fate(fates.length), -1);
@@ -19,7 +12,7 @@ public final class ReplayTest {
     }
 
     private static void tailDrop() {
-        QueueBlame x = with(0, 0, 60, 0, 1, 60, 0, 2, 40);
+        QueueBlame x = Check.with(0, 0, 60, 0, 1, 60, 0, 2, 40);
         drops("tail drop", x, 1);
         fates("tail drop", x, 5, -2, 9);
         Check.due("fate(-1)", x.fate(-1), -1);
@@ -47,7 +40,7 @@ public final class ReplayTest {
     }
 
     private static void ticks() {
-        QueueBlame x = with(0, 0, 15, 0, 1, 5, 0, 2, 1, 7, 3, 10, 20, 4, 11);
+        QueueBlame x = Check.with(0, 0, 15, 0, 1, 5, 0, 2, 1, 7, 3, 10, 20, 4, 11);
         drops("ticks", x);
         fates("ticks", x, 1, 1, 2, 7, 21);
         Check.due("loadAt(1)", x.loadAt(1), 1);
@@ -55,7 +48,7 @@ public final class ReplayTest {
         Check.due("loadAt(19)", x.loadAt(19), 0);
         Check.due("loadAt(20)", x.loadAt(20), 1);
         Check.due("peak", x.peak(), 11);
-        QueueBlame slow = with(500, 0, 100);
+        QueueBlame slow = Check.with(500, 0, 100);
         slow.setRate(1);
         drops("slow", slow);
         fates("slow", slow, 599);
@@ -63,18 +56,18 @@ public final class ReplayTest {
         Check.due("slow loadAt(500)", slow.loadAt(500), 99);
         Check.due("slow loadAt(598)", slow.loadAt(598), 1);
         Check.due("slow loadAt(599)", slow.loadAt(599), 0);
-        QueueBlame partly = with(0, 0, 5, 0, 1, 20, 1, 2, 10);
+        QueueBlame partly = Check.with(0, 0, 5, 0, 1, 20, 1, 2, 10);
         drops("partly sent", partly);
         fates("partly sent", partly, 0, 2, 3);
         Check.due("partly sent: loadAt(0)", partly.loadAt(0), 15);
         Check.due("partly sent: loadAt(1)", partly.loadAt(1), 15);
-        QueueBlame later = with(5, 0, 50, 7, 1, 50);
+        QueueBlame later = Check.with(5, 0, 50, 7, 1, 50);
         drops("later", later);
         fates("later", later, 9, 14);
         Check.due("later: loadAt(4)", later.loadAt(4), 0);
         Check.due("later: loadAt(6)", later.loadAt(6), 30);
         Check.due("later: loadAt(7)", later.loadAt(7), 70);
-        QueueBlame within = with(0, 0, 100, 0, 1, 10);
+        QueueBlame within = Check.with(0, 0, 100, 0, 1, 10);
         within.setPolicy(1);
         drops("a load within a tick", within, 0);
         Check.due("a load within a tick is no peak", within.peak(), 0);
@@ -84,14 +77,14 @@ public final class ReplayTest {
         Check.due("spread: the last load", spread.loadAt(390), 49);
         Check.due("spread: the peak", spread.peak(), 49);
         Check.due("spread: the last fate", spread.fate(39), 395);
-        QueueBlame empty = with(0, 0, 10);
+        QueueBlame empty = Check.with(0, 0, 10);
         drops("empty at once", empty);
         Check.due("empty at once: peak", empty.peak(), 0);
     }
 
     private static void tooLarge() {
         for (int policy = 0; policy < 5; policy++) {
-            QueueBlame x = with(0, 0, 30, 0, 1, 51, 0, 2, 20);
+            QueueBlame x = Check.with(0, 0, 30, 0, 1, 51, 0, 2, 20);
             x.setCapacity(50);
             x.setFactor(16);
             x.setPolicy(policy);
@@ -101,64 +94,64 @@ public final class ReplayTest {
     }
 
     private static void headDrop() {
-        QueueBlame x = with(0, 0, 50, 0, 1, 50, 1, 2, 30);
+        QueueBlame x = Check.with(0, 0, 50, 0, 1, 50, 1, 2, 30);
         x.setPolicy(1);
         drops("head drop", x, 1);
         fates("head drop", x, 4, -2, 7);
-        QueueBlame begun = with(0, 0, 100, 1, 1, 20);
+        QueueBlame begun = Check.with(0, 0, 100, 1, 1, 20);
         begun.setPolicy(1);
         drops("head drop, begun", begun, 1);
-        QueueBlame both = with(0, 0, 60, 0, 1, 40, 1, 2, 100);
+        QueueBlame both = Check.with(0, 0, 60, 0, 1, 40, 1, 2, 100);
         both.setPolicy(1);
         drops("head drop, then the arriving", both, 1, 2);
         fates("head drop, then the arriving", both, 5, -2, -2);
-        QueueBlame several = with(0, 0, 30, 0, 1, 30, 0, 2, 30, 0, 3, 70);
+        QueueBlame several = Check.with(0, 0, 30, 0, 1, 30, 0, 2, 30, 0, 3, 70);
         several.setPolicy(1);
         drops("head drop, several", several, 0, 1);
         fates("head drop, several", several, -2, -2, 2, 9);
     }
 
     private static void longestFlow() {
-        QueueBlame x = with(0, 0, 30, 0, 0, 30, 0, 1, 40, 0, 2, 20, 0, 3, 40, 0, 4, 50);
+        QueueBlame x = Check.with(0, 0, 30, 0, 0, 30, 0, 1, 40, 0, 2, 20, 0, 3, 40, 0, 4, 50);
         x.setPolicy(2);
         drops("longest flow", x, 1, 2, 5);
         fates("longest flow", x, 2, -2, -2, 4, 8, -2);
-        QueueBlame begun = with(0, 0, 90, 1, 1, 20, 1, 2, 10);
+        QueueBlame begun = Check.with(0, 0, 90, 1, 1, 20, 1, 2, 10);
         begun.setPolicy(2);
         drops("longest flow, begun", begun, 1);
         fates("longest flow, begun", begun, 8, -2, 9);
-        QueueBlame tie = with(0, 1, 60, 0, 0, 60);
+        QueueBlame tie = Check.with(0, 1, 60, 0, 0, 60);
         tie.setPolicy(2);
         drops("longest flow, tie with the arriving", tie, 1);
-        QueueBlame other = with(0, 0, 60, 0, 1, 60);
+        QueueBlame other = Check.with(0, 0, 60, 0, 1, 60);
         other.setPolicy(2);
         drops("longest flow, tie with a lower flow", other, 0);
     }
 
     private static void dynamicThreshold() {
-        QueueBlame x = with(0, 0, 50, 0, 0, 25, 0, 1, 50, 0, 2, 1);
+        QueueBlame x = Check.with(0, 0, 50, 0, 0, 25, 0, 1, 50, 0, 2, 1);
         x.setPolicy(3);
         drops("dynamic threshold", x, 1, 3);
-        QueueBlame one = with(0, 0, 26, 0, 0, 25, 0, 1, 1);
+        QueueBlame one = Check.with(0, 0, 26, 0, 0, 25, 0, 1, 1);
         one.setPolicy(3);
         one.setFactor(1);
         drops("dynamic threshold, factor 1", one, 0);
-        QueueBlame much = with(0, 0, 80, 0, 0, 20, 0, 1, 20);
+        QueueBlame much = Check.with(0, 0, 80, 0, 0, 20, 0, 1, 20);
         much.setPolicy(3);
         much.setFactor(16);
         drops("dynamic threshold, factor 16", much, 1);
-        QueueBlame full = with(0, 0, 80, 0, 1, 30, 0, 2, 20);
+        QueueBlame full = Check.with(0, 0, 80, 0, 1, 30, 0, 2, 20);
         full.setPolicy(3);
         full.setFactor(16);
         drops("dynamic threshold, full", full, 1);
         // In tick 1 the bytes that remain of flow 0 are 40, the load is 40: 4 * 60 = 4 * 60.
-        QueueBlame remaining = with(0, 0, 50, 1, 0, 20, 1, 0, 1);
+        QueueBlame remaining = Check.with(0, 0, 50, 1, 0, 20, 1, 0, 1);
         remaining.setPolicy(3);
         drops("dynamic threshold, remaining bytes", remaining, 2);
     }
 
     private static void earlyDrop() {
-        QueueBlame x = with(0, 0, 50, 0, 1, 10, 0, 1, 10, 0, 1, 10, 0, 1, 10, 0, 1, 30, 0, 1, 10, 0, 1, 10);
+        QueueBlame x = Check.with(0, 0, 50, 0, 1, 10, 0, 1, 10, 0, 1, 10, 0, 1, 10, 0, 1, 30, 0, 1, 10, 0, 1, 10);
         x.setPolicy(4);
         drops("early drop", x, 3, 5, 7);
         drops("early drop once more", x, 3, 5, 7);
@@ -170,7 +163,7 @@ public final class ReplayTest {
     }
 
     private static void schedulers() {
-        QueueBlame x = with(0, 0, 10, 0, 2, 10, 0, 1, 10, 0, 1, 10);
+        QueueBlame x = Check.with(0, 0, 10, 0, 2, 10, 0, 1, 10, 0, 1, 10);
         drops("first in, first out", x);
         fates("first in, first out", x, 0, 1, 2, 3);
         x.setScheduler(1);
@@ -178,35 +171,35 @@ public final class ReplayTest {
         x.setPriority(2, 2);
         drops("priorities", x);
         fates("priorities", x, 3, 2, 0, 1);
-        QueueBlame begun = with(0, 0, 20, 1, 1, 10, 1, 0, 10);
+        QueueBlame begun = Check.with(0, 0, 20, 1, 1, 10, 1, 0, 10);
         begun.setScheduler(1);
         begun.setPriority(1, 0);
         drops("priorities, begun", begun);
         fates("priorities, begun", begun, 1, 2, 3);
-        QueueBlame all = with(0, 0, 10, 0, 1, 10, 0, 2, 10, 0, 3, 10, 0, 4, 10, 0, 5, 10);
+        QueueBlame all = Check.with(0, 0, 10, 0, 1, 10, 0, 2, 10, 0, 3, 10, 0, 4, 10, 0, 5, 10);
         all.setScheduler(1);
         int[] priorities = {4, 9, 0, 4, 8, 3};
         for (int flow = 0; flow < 6; flow++) all.setPriority(flow, priorities[flow]);
         drops("six priorities", all);
         fates("six priorities", all, 2, 5, 0, 3, 4, 1);
-        QueueBlame first = with(0, 5, 10, 0, 4, 10, 0, 0, 10);
+        QueueBlame first = Check.with(0, 5, 10, 0, 4, 10, 0, 0, 10);
         first.setScheduler(2);
         drops("round robin begins with flow 0", first);
         fates("round robin begins with flow 0", first, 2, 1, 0);
-        QueueBlame round = with(0, 0, 10, 0, 0, 10, 0, 3, 10, 0, 1, 10, 0, 3, 10);
+        QueueBlame round = Check.with(0, 0, 10, 0, 0, 10, 0, 3, 10, 0, 1, 10, 0, 3, 10);
         round.setScheduler(2);
         drops("round robin", round);
         fates("round robin", round, 0, 3, 2, 1, 4);
         drops("round robin once more", round);
         fates("round robin once more", round, 0, 3, 2, 1, 4);
-        QueueBlame later = with(0, 2, 10, 5, 1, 10, 5, 3, 10, 5, 2, 10);
+        QueueBlame later = Check.with(0, 2, 10, 5, 1, 10, 5, 3, 10, 5, 2, 10);
         later.setScheduler(2);
         drops("round robin, behind the last", later);
         fates("round robin, behind the last", later, 0, 6, 5, 7);
     }
 
     private static void latestStays() {
-        QueueBlame x = with(0, 0, 60, 0, 1, 60, 0, 2, 40);
+        QueueBlame x = Check.with(0, 0, 60, 0, 1, 60, 0, 2, 40);
         x.replay(63);
         x.setRate(1);
         x.erase(0);
@@ -230,7 +223,7 @@ public final class ReplayTest {
     }
 
     private static void measures() {
-        QueueBlame x = with(0, 0, 60, 0, 1, 60, 1, 2, 40, 1, 1, 10);
+        QueueBlame x = Check.with(0, 0, 60, 0, 1, 60, 1, 2, 40, 1, 1, 10);
         Check.due("dropped packets", x.worth(63), 1);
         Check.due("of flow 0", x.worthFor(63, 0), 0);
         Check.due("of flow 1", x.worthFor(63, 1), 1);
