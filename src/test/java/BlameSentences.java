@@ -1,4 +1,4 @@
-/** The sentences under "MEASURES", "CAUSES" and "RANDOM ORDERS" and of the promises 20 to 32 that name a boundary case. */
+/** The sentences under "MEASURES", "CAUSES", "RANDOM ORDERS" and of the promises 20 to 32 that name a boundary case. */
 public final class BlameSentences {
     private interface OfFlow {
         int of(QueueBlame x, int flow);
@@ -120,6 +120,12 @@ public final class BlameSentences {
                 }
                 Check.due("a victim without packets", x.worthFor(63, 5), 0);
                 Check.due("a victim that is left out", x.worthFor(61, 1), 0);
+            }
+            QueueBlame most = new QueueBlame();
+            for (int k = 0; k < 40; k++) most.record(k, k % 6, 2);
+            most.setCapacity(1);
+            for (int victim = 0; victim < 6; victim++) {
+                Check.due("of 40 packets", most.worthFor(63, victim), victim < 4 ? 7 : 6);
             }
         });
         doc.says("The contribution of a flow to a set S without it is v(S with the flow) minus v(S).", () -> {

@@ -404,6 +404,10 @@ public final class FaceSentences {
             x.erase(1);
             Check.due("the rate was another", x.loadAt(5), 0);
             Check.due("the packets were others", x.loadAt(4), 2);
+            QueueBlame most = new QueueBlame();
+            for (int k = 0; k < 40; k++) most.record(12 * k, k % 6, 11 + k);
+            most.replay(63);
+            for (int k = 0; k < 40; k++) Check.due("40 ticks with arrivals", most.loadAt(12 * k), 1 + k);
         });
         doc.says("Returns the load; 0 for ticks behind the end of the replay; NONE if tick is negative, or there was no "
             + "replay.", () -> {
@@ -440,6 +444,16 @@ public final class FaceSentences {
             x.erase(0);
             x.setRate(1);
             Check.due("it stays", x.peak(), 40);
+            QueueBlame within = Check.with(0, 0, 100, 0, 1, 10);
+            within.setPolicy(1);
+            within.replay(63);
+            Check.due("not the load within a tick", within.peak(), 0);
+            QueueBlame fewer = Check.with(0, 0, 1, 1, 0, 90);
+            fewer.replay(63);
+            Check.due("of two packets", fewer.peak(), 80);
+            fewer.erase(1);
+            fewer.replay(63);
+            Check.due("of one packet", fewer.peak(), 0);
         });
         doc.says("Returns the load; 0 if the queue was always empty then; NONE if there was no replay.", () -> {
             QueueBlame x = Check.with(0, 0, 10, 1, 0, 10, 2, 1, 11);
@@ -449,7 +463,10 @@ public final class FaceSentences {
             x.replay(63);
             Check.due("once not empty", x.peak(), 1);
             x.replay(0);
-            Check.due("no packets", x.peak(), 0);
+            Check.due("no packets of these flows", x.peak(), 0);
+            QueueBlame none = new QueueBlame();
+            none.replay(63);
+            Check.due("no packets at all", none.peak(), 0);
         });
         doc.section("Promise 19");
         doc.says("Returns a packet that was dropped in the latest replay, in the order of the drops.", () -> {

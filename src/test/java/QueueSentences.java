@@ -302,6 +302,12 @@ public final class QueueSentences {
             fates("not the older one of its flow", withPolicy(2, 0, 0, 60, 0, 0, 41), "5 -2");
             drops("the last one", withPolicy(2, 0, 0, 30, 0, 0, 20, 0, 1, 30, 0, 0, 15, 0, 2, 6), "3");
             drops("the only one", withPolicy(2, 0, 3, 100, 0, 2, 99), "0");
+            QueueBlame most = withPolicy(2);
+            for (int k = 0; k < 39; k++) most.record(0, k < 26 ? 1 : 2, 1);
+            most.record(0, 0, 1);
+            most.setCapacity(39);
+            drops("the last one of 26 among 39", most, "25");
+            Check.due("the one behind it is sent in its turn", most.fate(26), 2);
             fates("the last one behind a begun one", withPolicy(2, 0, 0, 20, 0, 0, 50, 0, 1, 30, 1, 2, 20), "1 -2 4 6");
         });
         doc.says("3 (dynamic threshold) It is dropped if the load plus s is greater than the capacity, or if 4 * (the "
@@ -364,6 +370,10 @@ public final class QueueSentences {
             fates("one byte more", Check.with(0, 0, 11, 0, 1, 9), "1 1");
             fates("one byte less", Check.with(0, 0, 9, 0, 1, 1, 0, 2, 1), "0 0 1");
             fates("parts of packets", Check.with(0, 0, 5, 0, 1, 20, 0, 2, 5, 0, 3, 1), "0 2 2 3");
+            QueueBlame next = Check.with(0, 0, 5, 0, 1, 20, 1, 2, 1);
+            fates("a part, and the next arrival", next, "0 2 2");
+            Check.due("no more than the rate in tick 0", next.loadAt(0), 15);
+            Check.due("no more than the rate in tick 1", next.loadAt(1), 6);
             fates("nothing is saved for later ticks", Check.with(0, 0, 1, 5, 1, 25), "0 7");
             QueueBlame many = new QueueBlame();
             for (int k = 0; k < 11; k++) many.record(0, k % 6, 1);
@@ -426,6 +436,12 @@ public final class QueueSentences {
             fates("twice, from flow 0 again", anew, "1 0");
             Check.due("flow 0 was last in another replay", anew.replay(1), 0);
             fates("thrice", anew, "1 0");
+            QueueBlame most = withScheduler(2);
+            for (int k = 0; k < 40; k++) most.record(0, k < 30 ? 4 : 5, 1);
+            most.setRate(1);
+            most.replay(63);
+            for (int k = 0; k < 10; k++) Check.due("40 packets, in turns", most.fate(k) + 100 * most.fate(30 + k), 202 * k + 100);
+            for (int k = 10; k < 30; k++) Check.due("40 packets, the rest", most.fate(k), 10 + k);
         });
     }
 }

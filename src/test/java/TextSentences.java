@@ -177,6 +177,8 @@ public final class TextSentences {
             fault("rate ;", 5);
             fault("rate 1;;", 7);
             fault("rates 1;", 0);
+            fault("date 1;", 0);
+            fault("rata 1;", 0);
             fault("rate 1; pol", 8);
             fault("factor 1;", 0);
             fault("threshold 1;", 0);
@@ -323,6 +325,12 @@ public final class TextSentences {
             Check.due("no commands", x.run(), 0);
             Check.write(x, "policy 1;");
             Check.due("nothing is left of the old one", x.run(), 1);
+            QueueBlame longer = after("rate 1;rate 2;rate 3;");
+            longer.clearText();
+            Check.due("no commands of a longer one", longer.run(), 0);
+            Check.write(longer, "rate 4;");
+            Check.due("one command, not three", longer.run(), 1);
+            Check.due("the rate of the new one", longer.setRate(1), 4);
         });
         doc.says("Returns the length that it had.", () -> {
             QueueBlame x = new QueueBlame();
